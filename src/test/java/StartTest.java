@@ -172,6 +172,27 @@ public final class StartTest {
         }
         wordsOutsideAllRegions();
         aWaitIsForgotten();
+        theFirstWordAndAWindowHalfOver();
+    }
+
+    private static void theFirstWordAndAWindowHalfOver() {
+        PartitionDesk desk = new PartitionDesk();
+        desk.region(0, 0, 2);
+        desk.window(0, 3);
+        desk.window(0, 5);
+        Desks.write(desk, 0, Desks.SET, 0, 4, Desks.STORE, 0, 1);
+        desk.start();
+        desk.run(5);
+        due.is("word 0 before", desk.word(0), 4);
+        due.is("window before", desk.clock(0), 1);
+        due.is("ticks over before", desk.clock(1), 2);
+        desk.start();
+        due.is("word 0", desk.word(0), 0);
+        for (int i = 0; i < 3; i++) {
+            due.is("clock " + i, desk.clock(i), 0);
+        }
+        desk.run(2);
+        due.is("the first window is whole again", desk.clock(0), 0);
     }
 
     private static void wordsOutsideAllRegions() {
