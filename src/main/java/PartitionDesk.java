@@ -151,7 +151,7 @@ public final class PartitionDesk {
         if (!isPartition(partition)) {
             return REFUSED;
         }
-        Queue inputs = partitions[partition].inputs;
+        ValueQueue inputs = partitions[partition].inputs;
         return inputs.put(v, MOST_INPUTS) ? inputs.count : REFUSED;
     }
 
@@ -411,12 +411,12 @@ public final class PartitionDesk {
     }
 
     /** Up to a number of values, first in, first out. */
-    private static final class Queue {
+    private static final class ValueQueue {
         final int[] values;
         int first;
         int count;
 
-        Queue(int room) {
+        ValueQueue(int room) {
             values = new int[room];
             first = 0;
             count = 0;
@@ -460,11 +460,11 @@ public final class PartitionDesk {
         int from;
         int to;
         int depth;
-        final Queue values;
+        final ValueQueue values;
         int writtenAt;
 
         Port() {
-            values = new Queue(DEEPEST_PORT);
+            values = new ValueQueue(DEEPEST_PORT);
         }
 
         boolean isSampling() {
@@ -576,7 +576,7 @@ public final class PartitionDesk {
         int place;
         boolean running;
         int faults;
-        final Queue inputs;
+        final ValueQueue inputs;
         final int[] outputs;
         int outputCount;
 
@@ -586,7 +586,7 @@ public final class PartitionDesk {
             seconds = new int[INSTRUCTIONS];
             actions = new int[FAULTS];
             registers = new int[REGISTERS];
-            inputs = new Queue(MOST_INPUTS);
+            inputs = new ValueQueue(MOST_INPUTS);
             outputs = new int[KEPT_OUTPUTS];
         }
 
