@@ -37,6 +37,8 @@ public final class FaceTest {
     private static void theClass() {
         due.is("modifiers", PartitionDesk.class.getModifiers(), Modifier.PUBLIC | Modifier.FINAL);
         due.same("package", PartitionDesk.class.getPackageName(), "");
+        due.yes("no class above it", PartitionDesk.class.getSuperclass() == Object.class);
+        due.is("interfaces", PartitionDesk.class.getInterfaces().length, 0);
         Constructor<?>[] constructors = PartitionDesk.class.getDeclaredConstructors();
         due.is("constructors", constructors.length, 1);
         due.same("constructor", constructors[0].toGenericString(), "public PartitionDesk()");
